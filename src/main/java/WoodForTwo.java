@@ -32,6 +32,7 @@ public final class WoodForTwo {
     private static final int MOST_HEADS = 9;
     private static final int MOST_BURN = 9;
     private static final int MOST_WOOD = 999;
+    private static final int MOST_TOLD_WOOD = 500;
     private static final int MOST_TRACE = 16;
     private static final int IMAGES = 2;
 
@@ -152,7 +153,7 @@ public final class WoodForTwo {
     }
 
     public long night(int party) {
-        if (!here.hasParty(party)) {
+        if (here.partyAt(party) == null) {
             return BAD;
         }
         return here.sleepNight(party);
@@ -171,7 +172,7 @@ public final class WoodForTwo {
         }
         // All items are looked at before the first night: a refusal changes nothing.
         for (int k = 0; k < n; k++) {
-            if (!here.hasParty(items[row][i + k])) {
+            if (here.partyAt(items[row][i + k]) == null) {
                 return BAD;
             }
         }
@@ -204,14 +205,15 @@ public final class WoodForTwo {
     }
 
     public long party(int party, int what) {
-        if (!here.hasParty(party)) {
+        Party asked = here.partyAt(party);
+        if (asked == null) {
             return BAD;
         }
         switch (what) {
             case 0:
-                return here.partyAt(party).heads;
+                return asked.heads;
             case 1:
-                return here.partyAt(party).toil;
+                return asked.toil;
             case 2:
                 return here.slept[party];
             case 3:
@@ -386,28 +388,27 @@ public final class WoodForTwo {
     // ---- asked.
 
     public long kind(int party) {
-        if (!here.hasParty(party)) {
-            return BAD;
-        }
-        return here.partyAt(party).kindTold();
+        Party asked = here.partyAt(party);
+        return asked == null ? BAD : asked.kindTold();
     }
 
     public long as(int party, int kind) {
-        if (!here.hasParty(party) || kind < 0 || kind > 5) {
+        Party asked = here.partyAt(party);
+        if (asked == null || kind < 0 || kind > 5) {
             return BAD;
         }
-        if (!isOfKind(here.partyAt(party), kind)) {
+        if (!isOfKind(asked, kind)) {
             return found(KIND);
         }
         return fine(party);
     }
 
     public long ask(int party, int what) {
-        if (!here.hasParty(party) || !isZeroOrOne(what)) {
+        Party asked = here.partyAt(party);
+        if (asked == null || !isZeroOrOne(what)) {
             return BAD;
         }
         bodies.empty();
-        Party asked = here.partyAt(party);
         return what == 0 ? asked.sizeAsked(here, bodies) : asked.markAsked(here, bodies);
     }
 
@@ -756,13 +757,9 @@ public final class WoodForTwo {
             }
         }
 
-        boolean hasParty(int party) {
-            return party >= 0 && party < parties && told[party] != null;
-        }
-
-        /** The party, which the caller knows to be there by hasParty. */
+        /** The party of a number; null where there is no such one. */
         Party partyAt(int party) {
-            return told[party];
+            return party >= 0 && party < parties ? told[party] : null;
         }
 
         void addParty(Party party) {
@@ -800,9 +797,12 @@ public final class WoodForTwo {
             }
         }
 
-        /** A night of a party, which the caller knows to be there: how many freeze. */
+        /** A night of a party: how many freeze. */
         int sleepNight(int party) {
-            Party guest = told[party];
+            Party guest = partyAt(party);
+            if (guest == null) {
+                return 0;
+            }
             int wanted = guest.heads * burn;
             int burnt = Math.min(wanted, wood);
             int cold = headsWithout(wanted - burnt);
@@ -883,22 +883,14 @@ public final class WoodForTwo {
         }
 
         private boolean readHut(Pass into) {
-            if (!readWord("hut")) {
-                return false;
+            if (!isWord("hut")) {
+                return fail(CANNOT_STAND);
             }
-            into.wood = readNumber(0, MOST_STOCK);
-            if (into.wood == FAILED) {
-                return false;
-            }
-            into.burn = readNumber(1, MOST_BURN);
-            if (into.burn == FAILED) {
-                return false;
-            }
-            into.law = readLaw();
-            if (into.law == FAILED) {
-                return false;
-            }
-            into.times = readNumber(0, 9);
+            nextToken();
+            into.wood = readNumber(0, MOST_TOLD_WOOD);
+            into.burn = into.wood == FAILED ? FAILED : readNumber(1, MOST_BURN);
+            into.law = into.burn == FAILED ? FAILED : readLaw();
+            into.times = into.law == FAILED ? FAILED : readNumber(0, 9);
             return into.times != FAILED && readSign();
         }
 
@@ -908,27 +900,17 @@ public final class WoodForTwo {
                     return fail(NO_ROOM);
                 }
                 nextToken();
-                if (!readChance(into)) {
+                if (sort == NUMBER && into.hasChance(value)) {
+                    return fail(NOT_AS_TOLD);
+                }
+                int heads = readNumber(0, MOST_HEADS);
+                int odds = heads == FAILED ? FAILED : readNumber(1, 9);
+                if (odds == FAILED || !readSign()) {
                     return false;
                 }
+                into.addChance(heads, odds);
             }
             return true;
-        }
-
-        private boolean readChance(Pass into) {
-            if (sort == NUMBER && into.hasChance(value)) {
-                return fail(NOT_AS_TOLD);
-            }
-            int heads = readNumber(0, MOST_HEADS);
-            if (heads == FAILED) {
-                return false;
-            }
-            int odds = readNumber(1, 9);
-            if (odds == FAILED) {
-                return false;
-            }
-            into.addChance(heads, odds);
-            return readSign();
         }
 
         private boolean readParties(Pass into) {
@@ -937,28 +919,15 @@ public final class WoodForTwo {
                     return fail(NO_ROOM);
                 }
                 nextToken();
-                if (!readParty(into)) {
+                int heads = readNumber(1, MOST_HEADS);
+                int way = heads == FAILED ? FAILED : readWay();
+                int toil = way == FAILED ? FAILED : readNumber(0, 99);
+                if (toil == FAILED || !readSign()) {
                     return false;
                 }
+                into.addParty(partyOf(into.parties, heads, way, toil));
             }
             return true;
-        }
-
-        private boolean readParty(Pass into) {
-            int heads = readNumber(1, MOST_HEADS);
-            if (heads == FAILED) {
-                return false;
-            }
-            int way = readWay();
-            if (way == FAILED) {
-                return false;
-            }
-            int toil = readNumber(0, 99);
-            if (toil == FAILED) {
-                return false;
-            }
-            into.addParty(partyOf(into.parties, heads, way, toil));
-            return readSign();
         }
 
         private static Party partyOf(int number, int heads, int way, int toil) {
@@ -1006,14 +975,6 @@ public final class WoodForTwo {
             int read = value;
             nextToken();
             return read;
-        }
-
-        private boolean readWord(String word) {
-            if (!isWord(word)) {
-                return fail(CANNOT_STAND);
-            }
-            nextToken();
-            return true;
         }
 
         private boolean readSign() {
