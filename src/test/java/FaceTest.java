@@ -24,6 +24,11 @@ public final class FaceTest {
         "long image(int)", "long restore(int)", "long kind(int)", "long as(int,int)",
         "long ask(int,int)", "int trace(int)", "long count(int)", "int status()"};
 
+    private static final List<String> IMPORTS = List.of("java.util.Arrays", "java.util.ArrayList",
+        "java.util.List", "java.util.Iterator");
+    private static final List<String> LIBRARY = List.of("System.arraycopy", "Arrays.copyOf",
+        "Arrays.copyOfRange", "Arrays.fill");
+
     public static void main(String[] args) throws IOException {
         face();
         nothingElse();
@@ -77,7 +82,7 @@ public final class FaceTest {
             staticMeansFinal(f);
         }
         Class<?>[] inside = WoodForTwo.class.getDeclaredClasses();
-        yes("at most twelve classes", inside.length <= 11);
+        yes("some twelve classes at most", inside.length <= 12);
         for (Class<?> type : inside) {
             int is = type.getModifiers();
             yes(type + " is static and not to be seen", Modifier.isStatic(is)
@@ -109,30 +114,23 @@ public final class FaceTest {
         String code = withoutTexts(source);
         String[] words = {"throw", "throws", "try", "catch", "synchronized", "assert", "volatile",
             "native", "package", "protected", "equals", "hashCode", "toString", "Object", "System.out",
-            "Thread", "Random", "Exception", "yield", "var", "record", "sealed", "super.super"};
+            "Thread", "Random", "Exception", "yield", "var", "record", "sealed"};
         for (String word : words) {
             yes("no '" + word + "'", !Pattern.compile("\\b" + Pattern.quote(word) + "\\b")
                 .matcher(code).find());
         }
-        for (String sign : new String[] {"->", "::", "@", "...", "\"\"\""}) {
+        for (String sign : new String[] {"->", "::", "...", "\"\"\""}) {
             yes("no '" + sign + "'", !code.contains(sign));
         }
         Matcher imports = Pattern.compile("import ([^;]*);").matcher(code);
         while (imports.find()) {
-            yes("import " + imports.group(1), imports.group(1).equals("java.util.Arrays"));
+            yes("import " + imports.group(1), IMPORTS.contains(imports.group(1)));
         }
-        Matcher library = Pattern.compile("\\b(Math|Arrays|System|Integer|Long)\\.(\\w+)").matcher(code);
-        while (library.find()) {
-            String call = library.group(1) + "." + library.group(2);
-            yes(call, List.of("Math.min", "Math.max", "Arrays.fill", "System.arraycopy").contains(call));
-        }
-        String[] headings = {"---- rows.", "---- passes, nights.", "---- foretold.", "---- asked."};
-        String[] first = {"row(", "feed(", "safe(", "kind("};
-        for (int i = 0; i < headings.length; i++) {
-            int at = source.indexOf("// " + headings[i]);
-            int call = source.indexOf("public long ", Math.max(0, at));
-            yes("'" + headings[i] + "' stands ahead of " + first[i],
-                at >= 0 && source.startsWith("public long " + first[i], call));
+        yes("no function ends in Exact", !Pattern.compile("\\w+Exact\\b").matcher(code).find());
+        Matcher arrays = Pattern.compile("\\b(Arrays|System)\\.(\\w+)").matcher(code);
+        while (arrays.find()) {
+            String call = arrays.group(1) + "." + arrays.group(2);
+            yes(call, LIBRARY.contains(call));
         }
     }
 

@@ -112,6 +112,10 @@ public final class ForetoldTest {
         stock(most, 8, 2, 1000, 81 + 7 * 45);
         stock(most, 6, 0, 1, 486);
         stock(most, 7, 0, 1, Check.NONE);
+        // 500 is the last stock looked at: seven nights of nine heads and one of eight burn 497.
+        WoodForTwo near = Check.with("hut 1 7 flat 0;chance 9 9;chance 8 1;");
+        stock(near, 8, 0, 569, 497);
+        stock(near, 8, 0, 570, Check.NONE);
         WoodForTwo last = Check.with("hut 1 4 less 0;chance 8 9;chance 1 1;");
         stock(last, 8, 0, 1000, 256);
     }

@@ -42,6 +42,13 @@ public final class NightsTest {
             night(x, 0, lacks / 4 + (lacks % 4 == 0 ? 0 : 1), 0);
             c.due("froze in all", x.count(5), x.party(0, 3));
         }
+        for (int burn = 1; burn <= 9; burn++) {
+            for (int wood = 0; wood <= 20; wood++) {
+                WoodForTwo x = Check.with("hut " + wood + " " + burn + " flat 0;party 2 none 1;");
+                // One is warm from BURN on, both from twice that on.
+                night(x, 0, wood >= 2 * burn ? 0 : wood >= burn ? 1 : 2, Math.max(0, wood - 2 * burn));
+            }
+        }
         WoodForTwo x = Check.with("hut 5 4 head 2;party 5 keeps 1;party 9 none 0;");
         night(x, 0, 4, 40);
         book(x, 0, 1, 4, 40, 0);
@@ -63,6 +70,14 @@ public final class NightsTest {
         weigher("hut 0 8 flat 5;party 1 weighs 25;", 40);
         weigher("hut 0 8 flat 5;party 1 weighs 26;", 0);
         weigher("hut 50 8 flat 5;party 1 weighs 0;", 40);
+        weigher("hut 0 1 head 7;party 1 weighs 14;", 7);
+        WoodForTwo x = Check.with("hut 0 3 less 4;party 2 weighs 76;party 2 weighs 77;");
+        x.night(0);
+        c.due("76 times 13 is no more than 1000", x.party(0, 4), 13);
+        x.snow(99);
+        x.night(1);
+        c.due("77 times 13 is 1001", x.party(1, 4), 0);
+        c.due("77 times 13 is 1001", x.party(1, 5), 13);
         weigher("hut 100 1 head 9;party 9 weighs 1;", 81);
         weigher("hut 100 1 head 9;party 9 weighs 2;", 0);
         // What counts is the wood that is there when it goes, not in the evening.
@@ -150,6 +165,8 @@ public final class NightsTest {
         c.due("n goes ahead of NULL", x.nights(5, 0, 41), Check.BAD);
         c.due("an item that is no party", x.nights(1, 0, 3), Check.BAD);
         c.due("an item below 0", x.nights(1, 3, 2), Check.BAD);
+        c.due("the first item", x.nights(1, 2, 2), Check.BAD);
+        c.due("the one item", x.nights(1, 4, 1), Check.BAD);
         c.same("BAD", before, Check.seen(x));
         c.due("missing", x.nights(5, 0, 1), Check.NULL);
         c.due("NULL goes ahead of PLACE", x.nights(5, -1, 1), Check.NULL);

@@ -155,6 +155,11 @@ public final class TextsTest {
         fault("huts 5 1 head 1;", 0, 1);
         fault("hu 5 1 head 1;", 0, 1);
         fault("hat 5 1 head 1;", 0, 1);
+        fault("but 5 1 head 1;", 0, 1);
+        fault("hutz 5 1 head 1;", 0, 1);
+        fault("hut 5 1 dead 1;", 8, 1);
+        fault("hut 5 1 slat 1;", 8, 1);
+        fault("hut 5 1 mess 1;", 8, 1);
         fault(" 5 hut 1 head 1;", 1, 1);
         fault("; hut 5 1 head 1;", 0, 1);
         fault("chance 1 1;" + HUT, 0, 1);
@@ -185,6 +190,7 @@ public final class TextsTest {
     private static void faultsOfChances() {
         fault(HUT + "chance", 21, 1);
         fault(HUT + "chances 1 1;", 15, 1);
+        fault(HUT + "shance 1 1;", 15, 1);
         fault(HUT + "chance one 1;", 22, 1);
         fault(HUT + "chance 1;", 23, 1);
         fault(HUT + "chance 1 one;", 24, 1);
@@ -206,6 +212,11 @@ public final class TextsTest {
         fault(HUT + "party", 20, 1);
         fault(HUT + "parties 1 none 1;", 15, 1);
         fault(HUT + "part 1 none 1;", 15, 1);
+        fault(HUT + "warty 1 none 1;", 15, 1);
+        fault(HUT + "party 1 peeps 1;", 23, 1);
+        fault(HUT + "party 1 calf 1;", 23, 1);
+        fault(HUT + "party 1 gone 1;", 23, 1);
+        fault(HUT + "party 1 neighs 1;", 23, 1);
         fault(HUT + "party none 1 1;", 21, 1);
         fault(HUT + "party 1 1;", 23, 1);
         fault(HUT + "party 1 keep 1;", 23, 1);
@@ -326,6 +337,18 @@ public final class TextsTest {
         c.due("the second party is gone", x.party(1, 0), Check.BAD);
         c.due("no chances any more", x.safe(1, 1, 0, 0), Check.NONE);
         c.due("rows stay", x.drop(2), 3);
+        for (int again = 0; again < 4; again++) {
+            c.due("a pass anew", Check.read(x, "hut 1 3 flat 4;party 2 none 1;party 1 none 1;"), 2);
+            for (int what = 2; what <= 5; what++) {
+                c.due("party(0, " + what + ") is 0", x.party(0, what), 0);
+                c.due("party(1, " + what + ") is 0", x.party(1, what), 0);
+            }
+            c.due("no night is gone", x.count(3), 0);
+            c.due("nobody froze", x.count(5), 0);
+            c.due("wood", x.count(4), 1);
+            x.night(0);
+            x.night(1);
+        }
     }
 
     private static void fault(String text, int place, int number) {
