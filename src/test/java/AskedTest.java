@@ -7,6 +7,7 @@ public final class AskedTest {
 
     public static void main(String[] args) {
         imagesKeepAll();
+        imagesAreTwo();
         imagesOutlastAPass();
         imagesRefused();
         kinds();
@@ -33,13 +34,23 @@ public final class AskedTest {
         x.night(2);
         x.night(4);
         x.snow(9);
+        c.due("restore(0)", x.restore(0), 1);
+        c.same("restore(0)", first, Check.seen(x));
+    }
+
+    private static void imagesAreTwo() {
+        WoodForTwo x = Check.with("hut 50 3 less 2;chance 1 2;party 1 keeps 5;party 4 none 6;");
+        x.night(1);
+        String first = Check.seen(x);
+        x.image(0);
+        x.night(1);
+        x.snow(9);
         String second = Check.seen(x);
         c.due("image(1)", x.image(1), 1);
         x.night(0);
-        x.night(6);
-        c.due("restore(0)", x.restore(0), 1);
+        x.restore(0);
         c.same("restore(0)", first, Check.seen(x));
-        x.night(3);
+        x.night(0);
         c.due("restore(1)", x.restore(1), 1);
         c.same("restore(1)", second, Check.seen(x));
         c.due("restore(0) again", x.restore(0), 1);
@@ -50,8 +61,6 @@ public final class AskedTest {
         x.night(1);
         x.restore(0);
         c.same("an image in place of another", third, Check.seen(x));
-        c.due("both can be restored", x.restore(1), 1);
-        c.same("the other image", second, Check.seen(x));
     }
 
     private static void imagesOutlastAPass() {

@@ -83,28 +83,51 @@ final class Check {
         }
     }
 
-    /** What a caller can see of the pass, in one text. */
+    /** Looks at a row's items (0 to 999), one by one, by copies into a row of pairs, row 6. */
+    void isRow(WoodForTwo x, int row, int... items) {
+        x.row(6, 2, 2);
+        for (int i = 0; i < items.length; i++) {
+            x.copy(row, i, 6, 0, 1);
+            x.set(6, 1, items[i]);
+            boolean more = x.lies(6, 1, 0) != 0;
+            x.copy(row, i, 6, 1, 1);
+            x.set(6, 0, items[i]);
+            boolean fewer = x.lies(6, 1, 0) != 0;
+            due("item " + i + " of row " + row + " is " + items[i], more || fewer ? 0 : 1, 1);
+        }
+    }
+
+    /** What a caller can see but the rows' items, in one text; some 40 calls, and 7 for each party. */
     static String seen(WoodForTwo x) {
+        return seenButStatus(x) + " status " + x.status();
+    }
+
+    static String seenButStatus(WoodForTwo x) {
         StringBuilder all = new StringBuilder();
         for (int what = 0; what <= 6; what++) {
             all.append(x.count(what)).append(' ');
         }
         for (int law = 0; law <= 2; law++) {
-            for (int m = 1; m <= 9; m++) {
+            for (int m = 1; m <= 9; m += 4) {
                 all.append(x.due(law, m)).append(' ');
             }
         }
-        for (int p = 0; p < x.count(1); p++) {
+        long parties = x.count(1);
+        for (int p = 0; p < parties; p++) {
             for (int what = 0; what <= 5; what++) {
                 all.append(x.party(p, what)).append(' ');
             }
             all.append(x.kind(p)).append(' ');
         }
-        all.append(x.fault()).append(' ').append(x.status());
-        for (int i = 0; i < 16; i++) {
-            all.append(' ').append(x.trace(i));
+        for (int what = 0; what <= 1; what++) {
+            all.append(x.safe(20, 2, 1, what)).append(' ');
         }
-        return all.toString();
+        // By this the law as told is seen.
+        all.append(x.carry(60, 0, 2)).append(' ');
+        for (int i = 0; i < 16; i++) {
+            all.append(x.trace(i)).append(' ');
+        }
+        return all.append("fault ").append(x.fault()).toString();
     }
 
     /** A call that is due to change nothing that can be seen, but status(). */

@@ -116,18 +116,18 @@ public final class RowsTest {
         WoodForTwo x = new WoodForTwo();
         Check.fill(x, 0, 9, 8, 7, 6, 5, 4);
         c.due("copy on within a row", x.copy(0, 0, 0, 1, 4), 4);
-        isRow(x, 0, 9, 9, 8, 7, 6, 4);
+        c.isRow(x, 0, 9, 9, 8, 7, 6, 4);
         Check.fill(x, 0, 9, 8, 7, 6, 5, 4);
         c.due("copy back within a row", x.copy(0, 2, 0, 0, 4), 4);
-        isRow(x, 0, 7, 6, 5, 4, 5, 4);
+        c.isRow(x, 0, 7, 6, 5, 4, 5, 4);
         Check.fill(x, 1, 1, 2, 3);
         c.due("copy across", x.copy(0, 4, 1, 1, 2), 2);
-        isRow(x, 1, 1, 5, 4);
-        isRow(x, 0, 7, 6, 5, 4, 5, 4);
+        c.isRow(x, 1, 1, 5, 4);
+        c.isRow(x, 0, 7, 6, 5, 4, 5, 4);
         c.due("copy of none at the ends", x.copy(0, 6, 1, 3, 0), 0);
-        isRow(x, 1, 1, 5, 4);
+        c.isRow(x, 1, 1, 5, 4);
         c.due("copy of all", x.copy(1, 0, 0, 3, 3), 3);
-        isRow(x, 0, 7, 6, 5, 1, 5, 4);
+        c.isRow(x, 0, 7, 6, 5, 1, 5, 4);
     }
 
     private static void copyRefused() {
@@ -155,8 +155,8 @@ public final class RowsTest {
             c.dueStatus(x, "copy from " + p[0] + " to " + p[1] + ", " + p[2],
                 x.copy(0, p[0], 1, p[1], p[2]), Check.PLACE, 2);
         }
-        isRow(x, 0, 1, 2, 3);
-        isRow(x, 1, 4, 5, 6, 7);
+        c.isRow(x, 0, 1, 2, 3);
+        c.isRow(x, 1, 4, 5, 6, 7);
         c.dueStatus(x, "a copy that goes", x.copy(0, 0, 1, 1, 3), 3, 0);
         c.due("bytes to bytes", x.row(3, 0, 2) + x.row(4, 0, 2) + x.copy(3, 0, 4, 0, 2), 6);
     }
@@ -217,19 +217,5 @@ public final class RowsTest {
         x.as(0, 3);
         c.dueStatus(x, "lies: BAD by an item", x.lies(0, 1, 0), Check.BAD, 3);
         c.dueStatus(x, "row", x.row(1, 0, 0), 0, 0);
-    }
-
-    /** Looks at a row's items, one by one, by copies into a row of pairs. */
-    private static void isRow(WoodForTwo x, int row, int... items) {
-        x.row(6, 2, 2);
-        for (int i = 0; i < items.length; i++) {
-            x.copy(row, i, 6, 0, 1);
-            x.set(6, 1, items[i]);
-            boolean more = x.lies(6, 1, 0) != 0;
-            x.copy(row, i, 6, 1, 1);
-            x.set(6, 0, items[i]);
-            boolean fewer = x.lies(6, 1, 0) != 0;
-            c.due("item " + i + " of row " + row + " is " + items[i], more || fewer ? 0 : 1, 1);
-        }
     }
 }

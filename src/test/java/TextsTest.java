@@ -312,8 +312,7 @@ public final class TextsTest {
         c.due("fault()", x.fault(), 2);
         Check.read(x, "hut");
         c.due("fault() of the latest", x.fault(), 1);
-        String after = Check.seen(x).replace(" 1 0 12 11", " 0 0 12 11");
-        c.same("a fault", before, after);
+        c.same("a fault", before, Check.seen(x).replace("fault 1", "fault 0"));
         c.due("safe as before", x.safe(2, 1, 0, 0), 1);
         c.due("safe as before", x.safe(2, 1, 0, 1), 4);
         Check.read(x, HUT);

@@ -11,51 +11,80 @@ public final class WildTest {
         8, 9, 10, 13, 16, 20, 39, 40, 41, 99, 100, 300, 500, 999, 1000, 1001};
     private static final String[] WORDS = {"hut", "chance", "party", "head", "flat", "less", "keeps",
         "half", "none", "weighs", ";", "0", "1", "9", "10", "99", "500", "x", "0000", "-", "\n"};
-    private static final String[] CALLS = {"row", "set", "copy", "drop", "feed", "pass", "fault",
+    private static final String[] CALLS_TOLD = {"row", "set", "copy", "drop", "feed", "pass", "fault",
         "night", "nights", "snow", "due", "party", "safe", "stock", "send", "broke", "lies", "carry",
         "image", "restore", "kind", "as", "ask", "trace", "count", "status"};
 
     private static final List<String> WITH_STATUS =
         List.of("row", "set", "copy", "drop", "nights", "broke", "lies", "as");
+    private static final int RUNS = 4000;
+    private static final int CALLS = 30;
+    private static final int TEXTS = 4;
+
+    private final Random random;
+    private final WoodForTwo x = new WoodForTwo();
+
+    private WildTest(long seed) {
+        random = new Random(seed);
+    }
 
     public static void main(String[] args) {
-        // A seed of its own, so that each run is the same.
-        Random random = new Random(27);
-        for (int run = 0; run < 400; run++) {
-            WoodForTwo x = new WoodForTwo();
-            for (int call = 0; call < 120; call++) {
-                one(x, random);
+        // Seeds of their own, so that each run is the same. An object stays below 512 calls: at most
+        // four texts of some 40, 30 others, and the last one, ahead of and behind which all is seen.
+        for (int run = 0; run < RUNS; run++) {
+            WildTest test = new WildTest(27 + run);
+            for (int text = test.random.nextInt(TEXTS); text >= 0; text--) {
+                for (int call = test.random.nextInt(CALLS / TEXTS); call > 0; call--) {
+                    test.some();
+                }
+                test.feedText();
             }
+            test.last();
         }
         c.end();
     }
 
-    private static void one(WoodForTwo x, Random random) {
-        int which = random.nextInt(CALLS.length + 3);
-        if (which >= CALLS.length) {
-            feedText(x, random);
-            return;
+    private void some() {
+        int which = random.nextInt(CALLS_TOLD.length);
+        int[] a = arguments();
+        try {
+            answer(x, which, a);
+        } catch (RuntimeException e) {
+            c.due(told(which, a) + " throws " + e, 1, 0);
         }
-        int[] a = new int[5];
-        for (int i = 0; i < a.length; i++) {
-            a[i] = random.nextInt(4) == 0 ? ENDS[random.nextInt(ENDS.length)] : random.nextInt(4);
-        }
-        String call = CALLS[which] + " " + a[0] + " " + a[1] + " " + a[2] + " " + a[3] + " " + a[4];
+    }
+
+    private void last() {
+        int which = random.nextInt(CALLS_TOLD.length);
+        int[] a = arguments();
+        String call = told(which, a);
         int status = x.status();
-        String before = seenWithout(x);
+        String before = Check.seenButStatus(x);
         try {
             long answer = answer(x, which, a);
             boolean refused = answer >= Check.FULL && answer <= Check.BAD;
             boolean found = answer >= Check.STORE && answer <= Check.NULL;
-            if (refused || found) {
-                c.due(call + " changes nothing", before.equals(seenWithout(x)) ? 1 : 0, 1);
-            }
-            boolean counts = WITH_STATUS.contains(CALLS[which]);
+            boolean counts = WITH_STATUS.contains(CALLS_TOLD[which]);
             long due = !counts || refused ? status : found ? Check.NOT - 10 - answer : 0;
             c.due("status() after " + call, x.status(), due);
+            if (refused || found) {
+                c.same(call, before, Check.seenButStatus(x));
+            }
         } catch (RuntimeException e) {
             c.due(call + " throws " + e, 1, 0);
         }
+    }
+
+    private int[] arguments() {
+        int[] a = new int[5];
+        for (int i = 0; i < a.length; i++) {
+            a[i] = random.nextInt(4) == 0 ? ENDS[random.nextInt(ENDS.length)] : random.nextInt(4);
+        }
+        return a;
+    }
+
+    private static String told(int which, int[] a) {
+        return CALLS_TOLD[which] + " " + a[0] + " " + a[1] + " " + a[2] + " " + a[3] + " " + a[4];
     }
 
     private static long answer(WoodForTwo x, int which, int[] a) {
@@ -89,7 +118,7 @@ public final class WildTest {
         }
     }
 
-    private static void feedText(WoodForTwo x, Random random) {
+    private void feedText() {
         StringBuilder text = new StringBuilder("hut " + random.nextInt(501) + " "
             + (1 + random.nextInt(9)) + " " + WORDS[3 + random.nextInt(3)] + " " + random.nextInt(10) + ";");
         int size = random.nextInt(4);
@@ -108,16 +137,5 @@ public final class WildTest {
         } catch (RuntimeException e) {
             c.due("pass of " + text + " throws " + e, 1, 0);
         }
-    }
-
-    private static String seenWithout(WoodForTwo x) {
-        // All that can be seen, but the status, which may change.
-        String all = Check.seen(x);
-        int traces = all.length();
-        for (int i = 0; i < 16; i++) {
-            traces = all.lastIndexOf(' ', traces - 1);
-        }
-        int status = all.lastIndexOf(' ', traces - 1);
-        return all.substring(0, status) + all.substring(traces);
     }
 }
