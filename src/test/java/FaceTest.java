@@ -122,6 +122,7 @@ public final class FaceTest {
         for (String sign : new String[] {"->", "::", "...", "\"\"\""}) {
             yes("no '" + sign + "'", !code.contains(sign));
         }
+        yes("no static block", !Pattern.compile("\\bstatic\\s*\\{").matcher(code).find());
         Matcher imports = Pattern.compile("import ([^;]*);").matcher(code);
         while (imports.find()) {
             yes("import " + imports.group(1), IMPORTS.contains(imports.group(1)));
